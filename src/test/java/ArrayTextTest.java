@@ -16,7 +16,9 @@ public final class ArrayTextTest {
         t.depth();
         t.leastOfTheFirst();
         t.parities();
+        t.longLaws();
         t.begins();
+        t.oneAfterAnother();
         t.staysWithFault();
         t.c.end();
     }
@@ -53,6 +55,10 @@ public final class ArrayTextTest {
         fault("disks 3:", 7, 1);
         fault("disks 3;~", 8, 1);
         fault("#", 0, 1);
+        fault("misks 3;", 0, 1);
+        fault("disk7;", 0, 1);
+        fault(D3 + "clock once 0 1;", 8, 1);
+        fault(D3 + "block unce 0 1;", 14, 1);
     }
 
     private void lines() {
@@ -218,6 +224,8 @@ public final class ArrayTextTest {
         law("2 or 3", 1, 1, 1, 1, 1);
         law("0 or 0", 0, 0, 0, 0, 0);
         law("2 and 0", 0, 0, 0, 0, 0);
+        law("0 and 2", 0, 0, 0, 0, 0);
+        law("0 or 2", 1, 1, 1, 1, 1);
         law("1 or 0 and 0", 0, 0, 0, 0, 0);
         law("0 and 0 or 1", 1, 1, 1, 1, 1);
         law("1 or (0 and 0)", 1, 1, 1, 1, 1);
@@ -250,6 +258,54 @@ public final class ArrayTextTest {
         ParitySpread x = Check.told(blocks + "parity " + e.replace("stripe", "(stripe-2)") + ";");
         for (int s = 0; s < 5; s++) {
             c.due("parity " + e + " of " + s, x.stripe(s + 2, 1), parity[s]);
+        }
+    }
+
+    /** As long, and as deep, as can be. */
+    private void longLaws() {
+        String ends = "disks 5;block once 0 1 2 3 4;parity ";
+        String ones = "1+".repeat((1000 - ends.length() - 2) / 2) + "1;";
+        ParitySpread x = Check.told(ends + ones);
+        c.due("a sum of " + ones.length() / 2, x.stripe(0, 1), ones.length() / 2 % 5);
+        // each level leaves four values open and answers what is within it
+        String deep = "0 or 1<1+1*(".repeat(4);
+        for (int i = 0; i <= 1; i++) {
+            ParitySpread y = Check.told(ends + deep + "0 or 1<1+1*" + i + ")".repeat(4) + ";");
+            c.due("deep " + i, y.stripe(0, 1), i);
+        }
+        String wide = "stripe-(3-(3-(3-(0+4*1))))";
+        c.due("wide", Check.told(ends + wide + ";").stripe(0, 1), Math.floorMod(-(3 - (3 - (3 - 4))), 5));
+        c.due("not within ( )", Check.told(ends + "not(not(1<2)+not 1)*3;").stripe(0, 1), 3);
+    }
+
+    /** What was told before leaves nothing behind, whichever of the earlier ones it was. */
+    private void oneAfterAnother() {
+        ParitySpread x = new ParitySpread();
+        String rich = "disks 13;speed 9;parity 1;block cycle 0 1 3 9;block mirror 0 1 2 3 4;block twice 5 6;";
+        for (int i = 0; i < 4; i++) {
+            c.due("rich", Check.array(x, rich), 0);
+            if (i % 2 == 0) {
+                c.due("rich again", Check.array(x, rich), 0);
+            }
+            x.write(0, 200);
+            x.see(0, true);
+            c.due("poor", Check.array(x, "disks 3;block twice 0 2;block once 1 0;"), 0);
+            c.due("speed", x.count(9), 4);
+            c.due("blocks", x.count(1), 2);
+            c.due("stripes", x.count(2), 3);
+            c.due("parity of 0", x.stripe(0, 1), 0);
+            c.due("spare of 0", x.stripe(0, 2), 1);
+            c.due("at(2, 0)", x.at(2, 0), 1);
+            c.due("at(0, 2)", x.at(0, 2), 17);
+            c.due("at(2, 2)", x.at(2, 2), 23);
+            c.due("units", x.spread(0), 2);
+            c.due("parities", x.spread(1), 0);
+            c.due("parities on 1", x.disk(1, 2), 1);
+            c.due("loads", x.count(8), 0);
+            c.due("byte", x.read(0), 0);
+            c.due("pairs", x.pairs(1, 2), 0);
+            x.see(0, false);
+            c.due("who", x.who(), 7);
         }
     }
 

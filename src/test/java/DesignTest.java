@@ -45,6 +45,8 @@ public final class DesignTest {
         c.due("even of 7, 4", Check.told("disks 7;block cycle 0 1 2 4;").even(), 2);
         c.due("even of 13", Check.told("disks 13;block cycle 0 1 4;block cycle 0 2 7;").even(), 1);
         c.due("not even by the last pair", Check.told("disks 3;block once 0 1;block once 0 2;").even(), -1);
+        c.due("not even by 0 and 2", Check.told("disks 3;block once 0 1;block once 1 2;").even(), -1);
+        c.due("worst with disk 0", Check.told("disks 3;block once 0 2;").worst(2), 1);
         c.due("even by once", Check.told("disks 3;block once 0 1;block once 0 2;block once 2 1;").even(), 1);
     }
 

@@ -22,6 +22,7 @@ public final class LayoutTest {
         t.disks();
         t.afterLoss();
         t.noSpare();
+        t.most();
         t.others();
         t.c.end();
     }
@@ -136,6 +137,27 @@ public final class LayoutTest {
         c.due("its place", y.at(2, 1), 15);
         c.due("order told", y.unit(0, 0, 0), 2);
         c.due("nothing behind", y.at(2, 2), -1);
+    }
+
+    /** As many disks, stripes and data as can be. */
+    private void most() {
+        String cycle = "block cycle 0 1 3 9 12;";
+        ParitySpread y = Check.told("disks 13;" + cycle + cycle + cycle + "block once 12 11 10 9 8;parity 4;");
+        c.due("40 stripes", y.count(2), 40);
+        c.due("160 data", y.count(3), 160);
+        c.due("the last datum's stripe", y.datum(159, 0), 39);
+        c.due("the last datum's unit", y.datum(159, 1), 3);
+        c.due("the last datum's disk", y.datum(159, 2), 9);
+        c.due("its place", y.datum(159, 3), 15);
+        c.due("write", y.write(159, 255), 4);
+        c.due("parity", y.unit(39, 4, 3), 255);
+        for (int d = 0; d < 13; d++) {
+            c.due("units on " + d, y.disk(d, 1), d < 8 ? 15 : 16);
+        }
+        c.due("lose", y.lose(12), 16);
+        c.due("lost(15)", y.lost(15), 39 * 8);
+        c.due("rebuild", y.rebuild(40), 16);
+        c.due("risk", y.risk(), 66);
     }
 
     private void others() {

@@ -45,11 +45,39 @@ public final class MarkCountTest {
         c.due("byte at 0 again", x.unit(0, 1, 3), 5);
         c.due("1 is there still", x.mark(1, true), true);
         c.due("who at 1", x.who(), 4);
+        seenOfMarks();
         x.lose(0);
         c.due("lay 0 anew", x.mark(0, false), true);
         x.replace(0);
         c.due("back to the new 0", x.mark(0, true), true);
         c.due("up at the new 0", x.count(4), 124);
+    }
+
+    private void seenOfMarks() {
+        ParitySpread x = Check.told(FANO);
+        x.see(0, true);
+        x.mark(0, false);
+        Check.feed(x, "x");
+        x.see(3, false);
+        x.mark(1, false);
+        ParitySpread y = Check.told(FANO);
+        y.mark(0, false);
+        y.see(0, false);
+        y.mark(1, false);
+        y.mark(0, true);
+        y.see(1, true);
+        c.due("who by 1", y.who(), 8);
+        y.mark(1, true);
+        c.due("who by not 0", y.who(), 125);
+        y.mark(0, true);
+        c.due("who by nothing", y.who(), 127);
+        y.see(2, true);
+        c.due("who by 2", y.who(), 2);
+        x.mark(0, true);
+        x.see(2, false);
+        c.due("who by 0, not 2", x.who(), 0);
+        x.mark(1, true);
+        c.due("who by 0, not 3", x.who(), 2);
     }
 
     private void notTheTexts() {

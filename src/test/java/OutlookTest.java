@@ -87,6 +87,7 @@ public final class OutlookTest {
             ParitySpread y = Check.told(four + "speed " + speed + ";");
             for (int readers = 0; readers < speed; readers++) {
                 c.due("speed " + speed + ", readers " + readers, y.time(0, readers), ticks[speed - readers - 1]);
+                c.due("the same from disk 0", y.time(1, readers), ticks[speed - readers - 1]);
             }
             c.due("readers " + speed, y.time(0, speed), -1);
             c.due("nothing on it", y.time(2, 0), 0);
@@ -170,6 +171,11 @@ public final class OutlookTest {
         grow("disks 3;block mirror 0 1;block once 2 1;parity 0;", 1, 2, 1);
         grow("disks 3;block mirror 0 1;parity first=2;", 1, 0, 1);
         grow("disks 3;", 3, 0, 0);
+        grow("disks 3;block once 0 1 2;", 4, -1, -1);
+        grow("disks 3;block once 0 1 2;", 1, 0, 0);
+        grow("disks 3;block once 0 1 2;", 3, 0, 1);
+        grow("disks 4;block once 0 1 2;block twice 0 1;block cycle 0 1;", 1, 1, 3);
+        grow("disks 9;" + "block cycle 0 1;".repeat(4), 1, 28, 7);
         grow("disks 12;block cycle 0 1;", 1, 0, 1);
         grow("disks 12;block cycle 0 1;", 2, -1, -1);
         grow("disks 13;block once 0 1;", 1, -1, -1);

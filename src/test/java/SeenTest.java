@@ -125,6 +125,12 @@ public final class SeenTest {
         c.due("the one that parts them best", y.ask(), 3);
         c.due("no data", Check.told("disks 3;").ask(), -1);
         c.due("who without data", Check.told("disks 3;").who(), 7);
+        ParitySpread z = Check.told("disks 4;block once 0 1 2;parity 2;");
+        c.due("by disk 0", z.ask(), 0);
+        z.see(1, false);
+        c.due("by disk 0 still", z.ask(), 0);
+        z.see(0, true);
+        c.due("it was disk 0", z.who(), 1);
         c.due("none parts them", Check.told("disks 3;block once 0 1;").ask(), -1);
     }
 }

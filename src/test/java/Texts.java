@@ -14,9 +14,12 @@ final class Texts {
         "abcdefgh", "abcdefghi", "a", "A", ">", "#", "not not not not not", "((((("};
 
     private final Random random;
+    /** How many of not and ( ) an E may have round a part: now and then one too many. */
+    private final int deepest;
 
     Texts(Random random) {
         this.random = random;
+        deepest = random.nextInt(8) == 0 ? 5 : 4;
     }
 
     private String blank() {
@@ -37,7 +40,7 @@ final class Texts {
             late.add("parity" + blank() + e(random.nextInt(4), 0) + maybeBlank() + ";");
         }
         int stripes = 0;
-        int many = random.nextInt(7);
+        int many = random.nextInt(random.nextInt(10) == 0 ? 10 : 7);
         for (int i = 0; i < many; i++) {
             String kind = KINDS[random.nextInt(4)];
             int of = kind.equals("once") ? 1 : kind.equals("cycle") ? disks : 2;
@@ -89,7 +92,7 @@ final class Texts {
     }
 
     private String part(int within) {
-        int kind = random.nextInt(within < 4 ? 8 : 5);
+        int kind = random.nextInt(within < deepest ? 8 : 5);
         if (kind == 5) {
             return "not" + blank() + part(within + 1);
         }
@@ -125,8 +128,9 @@ final class Texts {
         for (int i = 0; i < times; i++) {
             int at = random.nextInt(b.length() + 1);
             String bit = BITS[random.nextInt(BITS.length)];
-            switch (random.nextInt(5)) {
+            switch (random.nextInt(6)) {
                 case 0: b.setLength(at); break;
+                case 5: repeatLine(b, at); break;
                 case 1: b.insert(at, bit); break;
                 case 2: b.insert(at, " " + bit + " "); break;
                 case 3: b.delete(at, Math.min(b.length(), at + 1 + random.nextInt(4))); break;
@@ -134,6 +138,12 @@ final class Texts {
             }
         }
         return b.toString();
+    }
+
+    private static void repeatLine(StringBuilder b, int at) {
+        int from = b.lastIndexOf(";", at) + 1;
+        int to = b.indexOf(";", from) + 1;
+        b.append(from < to ? b.substring(from, to) : ";");
     }
 
     private static void replaceToken(StringBuilder b, int at, String bit) {
