@@ -33,6 +33,53 @@ final class Check {
         due("lost(" + i + ") throws", thrown, 1);
     }
 
+    /** A new object must find this FAULT in the text of an ARRAY. */
+    void fault(String text, int place, int kind) {
+        due("array \"" + text + "\"", array(new ParitySpread(), text), kind + 16 * place);
+    }
+
+    void right(String text) {
+        due("array \"" + text + "\"", array(new ParitySpread(), text), 0);
+    }
+
+    void workFault(String array, String text, int place, int kind) {
+        due("work \"" + text + "\"", work(told(array), text), kind + 16 * place);
+    }
+
+    void workRight(String array, String text, int lines) {
+        ParitySpread x = told(array);
+        due("work \"" + text + "\"", work(x, text), 0);
+        due("lines of \"" + text + "\"", x.count(10), lines);
+    }
+
+    /** What count(0), count(1), .. must answer. */
+    void counts(ParitySpread x, int... want) {
+        for (int what = 0; what < want.length; what++) {
+            due("count(" + what + ")", x.count(what), want[what]);
+        }
+    }
+
+    /** What each DISK's LOADS must be. */
+    void loads(ParitySpread x, int... want) {
+        for (int disk = 0; disk < want.length; disk++) {
+            due("loads of disk " + disk, x.disk(disk, 4), want[disk]);
+        }
+    }
+
+    int asked() {
+        return asked;
+    }
+
+    int wrong() {
+        return wrong;
+    }
+
+    /** What a test threw itself is a wrong answer, too. */
+    void thrown(RuntimeException e) {
+        wrong++;
+        System.out.println(name + ": threw " + e);
+    }
+
     void end() {
         System.out.println(asked + " answers, " + wrong + " not as due");
         if (wrong != 0) {

@@ -5,7 +5,6 @@ public final class LoadsTest {
         "disks 13;block cycle 0 1 3 9;block cycle 0 5 2 7 11;block mirror 0 1 2;"};
 
     private final Check c = new Check("loads");
-    private long g;
 
     public static void main(String[] args) {
         LoadsTest t = new LoadsTest();
@@ -16,45 +15,18 @@ public final class LoadsTest {
         t.c.end();
     }
 
-    private int draw(int m) {
-        g = (g * 1103515245 + 12345) % 2147483648L;
-        return (int) (g / 65536 % m);
-    }
-
     /** The first draws by SEED 1 are known from elsewhere: 16838, 5758, 10113, 17515 of 32768. */
     private void draws() {
-        g = 1;
+        Drawn drawn = new Drawn(1);
         int[] due = {16838, 5758, 10113, 17515};
         for (int d : due) {
-            c.due("draw", draw(1 << 15), d);
+            c.due("draw", drawn.below(1 << 15), d);
         }
         // 16838 modulo 8 is 6: a replace, of one that is up; 10113 modulo 8 is 1: a reading
         ParitySpread x = Check.told(TOLD[0]);
         c.due("a replace that can't be", x.loads(1, 1, 0), 0);
         c.due("then a reading", x.loads(1, 2, 0), 1);
         c.due("one disk above the others", x.loads(1, 2, 2), 1);
-    }
-
-    private void drawnByHand(ParitySpread y, int seed, int many) {
-        g = seed;
-        for (int i = 0; i < many; i++) {
-            int kind = draw(8);
-            if (kind < 5) {
-                int datum = draw(y.count(3));
-                int value = draw(256);
-                if (kind < 3) {
-                    y.read(datum);
-                } else {
-                    y.write(datum, value);
-                }
-            } else if (kind == 5) {
-                y.lose(draw(y.count(0)));
-            } else if (kind == 6) {
-                y.replace(draw(y.count(0)));
-            } else {
-                y.rebuild(1 + draw(4));
-            }
-        }
     }
 
     private void begin(ParitySpread x) {
@@ -73,24 +45,14 @@ public final class LoadsTest {
                     begin(x);
                     begin(y);
                     int before = y.count(8);
-                    drawnByHand(y, seed, many);
+                    new Drawn(seed).perform(y, many);
                     String call = told + " loads(" + seed + ", " + many + ", ";
                     c.due(call + "0)", x.loads(seed, many, 0), y.count(8) - before);
                     c.due(call + "1)", x.loads(seed, many, 1), y.count(7));
-                    c.due(call + "2)", x.loads(seed, many, 2), spread(y));
+                    c.due(call + "2)", x.loads(seed, many, 2), Drawn.spread(y));
                 }
             }
         }
-    }
-
-    private static int spread(ParitySpread y) {
-        int most = 0;
-        int fewest = Integer.MAX_VALUE;
-        for (int d = 0; d < y.count(0); d++) {
-            most = Math.max(most, y.disk(d, 4));
-            fewest = Math.min(fewest, y.disk(d, 4));
-        }
-        return most - fewest;
     }
 
     private void nothingChanges() {
