@@ -29,7 +29,8 @@ final class Answers {
         same(c, "of the lost", got, want, Answers::ofLost);
     }
 
-    private static void same(Check c, String which, Supplier<ParitySpread> got, Supplier<ParitySpread> want, Questions questions) {
+    private static void same(Check c, String which, Supplier<ParitySpread> got, Supplier<ParitySpread> want,
+            Questions questions) {
         List<Integer> these = new ArrayList<>();
         List<Integer> those = new ArrayList<>();
         questions.ask(got.get(), these);

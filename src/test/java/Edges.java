@@ -63,7 +63,8 @@ final class Edges {
 
     private String section(int number) {
         int from = number == 0 ? 0 : document.indexOf("## Promise " + number + ":");
-        int to = number == PROMISES ? document.indexOf("## Not promised") : document.indexOf("## Promise " + (number + 1) + ":");
+        String next = number == PROMISES ? "## Not promised" : "## Promise " + (number + 1) + ":";
+        int to = document.indexOf(next);
         return from >= 0 && to >= from ? document.substring(from, to) : "";
     }
 

@@ -22,6 +22,7 @@ final class EdgesOfCalls {
         e.promise(8, "as 8 * the STRIPE + the UNIT (7: the SPARE)", EdgesOfCalls::atPlaces);
         e.promise(8, "NONE: others, for nothing", EdgesOfCalls::atOthers);
         e.promise(9, "what 0: 1 up", EdgesOfCalls::diskUp);
+        e.promise(9, "1: UNITS, 2: PARITIES, 3: SPARES, 4: LOADS", EdgesOfCalls::diskCounts);
         e.promise(9, "5: UNITS that are there now", EdgesOfCalls::diskNow);
         e.promise(9, "NONE: others", EdgesOfCalls::diskOthers);
         works(e);
@@ -252,6 +253,24 @@ final class EdgesOfCalls {
         c.due("another one", x.disk(3, 0), 1);
         x.replace(4);
         c.due("up again", x.disk(4, 0), 1);
+    }
+
+    /** The parities of the stripes are on disks 0, 0 and 3, the spares on 3, 4 and 1. */
+    private static void diskCounts(Check c) {
+        ParitySpread x = Check.told(TWO + "block once 3 0;parity 0;");
+        int[][] due = {{3, 2, 0, 4}, {2, 0, 1, 2}, {2, 0, 0, 0}, {2, 1, 1, 2}, {0, 0, 1, 0}};
+        x.write(0, 1);
+        x.write(5, 1);
+        x.lose(0);
+        for (int d = 0; d < 5; d++) {
+            for (int what = 1; what <= 4; what++) {
+                c.due("disk(" + d + ", " + what + ")", x.disk(d, what), due[d][what - 1]);
+            }
+        }
+        ParitySpread none = Check.told("disks 13;");
+        for (int what = 1; what <= 5; what++) {
+            c.due("no stripes, the last disk, what " + what, none.disk(12, what), 0);
+        }
     }
 
     private static void diskNow(Check c) {

@@ -13,11 +13,12 @@ final class EdgesOfOutlooks {
         e.terms("COST of a DATUM: how many LOADS a READ of it takes now.", EdgesOfOutlooks::cost);
         e.terms("PRICE: a WRITE.", EdgesOfOutlooks::price);
         e.terms("WOULD of two DISKS, both up", EdgesOfOutlooks::wouldUp);
-        e.terms("how many UNITS that are on the second one (HOME, AWAY) would be read to rebuild all that are on the first one",
-            EdgesOfOutlooks::would);
+        e.terms("how many UNITS that are on the second one (HOME, AWAY) would be read to rebuild all that are on the first "
+            + "one", EdgesOfOutlooks::would);
         e.terms("of STRIPES that have nothing LOST.", EdgesOfOutlooks::wouldNothingLost);
         time(e);
-        e.terms("BEARS of a DISK that is up: whether no STRIPE would be DEAD that is not, were it LOST.", EdgesOfOutlooks::bears);
+        e.terms("BEARS of a DISK that is up: whether no STRIPE would be DEAD that is not, were it LOST.",
+            EdgesOfOutlooks::bears);
         e.terms("RISK: pairs of DISKS, both up, by whose loss any would be.", EdgesOfOutlooks::risk);
         e.terms("GROW of 1 to 3 DISKS more, all else as told", EdgesOfOutlooks::growMore);
         e.terms("(13 at most, STRIPES 40 at most)", EdgesOfOutlooks::growTooMany);
@@ -30,10 +31,11 @@ final class EdgesOfOutlooks {
         e.terms("TIME of a DISK that is up and so many readers (0 to less than the speed)", EdgesOfOutlooks::timeReaders);
         e.terms("till all UNITS that are on it, of STRIPES with nothing LOST, are rebuilt into SPARES (0: there are none)",
             EdgesOfOutlooks::timeNone);
-        e.terms("each other DISK that is up (one that is down has no part in it) can take as many LOADS as the speed is, less "
-            + "the readers", EdgesOfOutlooks::timeLoads);
+        e.terms("each other DISK that is up (one that is down has no part in it) can take as many LOADS as the speed is, "
+            + "less the readers", EdgesOfOutlooks::timeLoads);
         e.terms("STRIPES in their order, again by each tick", EdgesOfOutlooks::timeOrder);
-        e.terms("one is rebuilt if each DISK that is read for it, and the SPARE, can take one more", EdgesOfOutlooks::timeSpare);
+        e.terms("one is rebuilt if each DISK that is read for it, and the SPARE, can take one more",
+            EdgesOfOutlooks::timeSpare);
         e.terms("Those without a SPARE that is up (or with one AWAY) are left out.", EdgesOfOutlooks::timeLeftOut);
     }
 
@@ -168,7 +170,8 @@ final class EdgesOfOutlooks {
         String second = "disks 6;block once 0 1;block once 0 4;block once 0 5;block once 0 3;speed 1;";
         c.due("the first and third, the second, the fourth", Check.told(second).time(0, 0), 3);
         String third = "disks 6;block once 5 4;block once 5 2;block once 5 0;block once 5 3;speed 1;";
-        c.due("of disk 5, by 4 0, 2 1, 0 2, 3 4: the first and second, the third and fourth", Check.told(third).time(5, 0), 2);
+        // read and spare DISKS: 4 0, 2 1, 0 2, 3 4
+        c.due("of disk 5, the first and second, the third and fourth", Check.told(third).time(5, 0), 2);
         c.due("all in one tick", Check.told(second.replace("speed 1", "speed 2")).time(0, 0), 1);
     }
 

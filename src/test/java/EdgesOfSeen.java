@@ -16,7 +16,8 @@ final class EdgesOfSeen {
         e.terms("8 at most, as all is when it is asked", EdgesOfSeen::seenEight);
         e.terms("as all is when it is asked", EdgesOfSeen::seenNow);
         e.terms("WHO: DISKS by which all SEEN is so (bits).", EdgesOfSeen::who);
-        e.terms("ASK: the DATUM by which the greater number of WHO by whom that is so, or not, is the least", EdgesOfSeen::ask);
+        e.terms("ASK: the DATUM by which the greater number of WHO by whom that is so, or not, is the least",
+            EdgesOfSeen::ask);
         e.terms("if that is less than all", EdgesOfSeen::askNone);
         e.terms("if that is less than all; of equal ones the first.", EdgesOfSeen::askFirst);
         loads(e);
@@ -24,8 +25,8 @@ final class EdgesOfSeen {
     }
 
     private static void loads(Edges e) {
-        e.terms("g becomes (g * 1103515245 + 12345) modulo 2147483648 (g is the SEED at first); it is g / 65536, cut, modulo m",
-            EdgesOfSeen::draws);
+        e.terms("g becomes (g * 1103515245 + 12345) modulo 2147483648 (g is the SEED at first); it is g / 65536, cut, "
+            + "modulo m", EdgesOfSeen::draws);
         e.terms("LOADS by a SEED of so many (1 to 99)", EdgesOfSeen::loadsMany);
         e.terms("from now on (all is as ahead then)", EdgesOfSeen::loadsLeaveAll);
         e.terms("each, if there are DATA", EdgesOfSeen::loadsWithoutData);
@@ -34,8 +35,8 @@ final class EdgesOfSeen {
         e.terms("5: LOSE, 6: REPLACE, of a DISK, a DRAW below DISKS", EdgesOfSeen::loadsOfLose);
         e.terms("7: REBUILD of a DRAW below 4, and 1", EdgesOfSeen::loadsOfRebuild);
         e.terms("(each if it can be; a READ, too, has the byte drawn)", EdgesOfSeen::loadsIfItCanBe);
-        e.terms("LOADS of these, of all DISKS; DEAD STRIPES at last; by how much the DISK with the most LOADS is above the one "
-            + "with the fewest at last", EdgesOfSeen::loadsAnswers);
+        e.terms("LOADS of these, of all DISKS; DEAD STRIPES at last; by how much the DISK with the most LOADS is above the "
+            + "one with the fewest at last", EdgesOfSeen::loadsAnswers);
     }
 
     private static int whoBy(ParitySpread x, int datum, boolean dearer) {
