@@ -87,10 +87,10 @@ public final class ParitySpread {
     private static final int MAX_OPEN = LEVEL_PART * MAX_ROUND + 4;
 
     private final Tape tape = new Tape();
-    private final ArrayReader arrayReader = new ArrayReader(tape);
     /** What is read goes into the second of each pair, which takes the first one's part without a FAULT. */
     private Told told = new Told();
     private Told nextTold = new Told();
+    private final ArrayReader arrayReader = new ArrayReader(tape, nextTold);
     private Work lines = new Work(tape);
     private Work nextLines = new Work(tape);
     private final Layout layout = new Layout();
@@ -681,8 +681,10 @@ public final class ParitySpread {
         private final Tape tape;
         private Told told;
 
-        ArrayReader(Tape tape) {
+        /** The first target is given here, so that there is one at all times. */
+        ArrayReader(Tape tape, Told told) {
             this.tape = tape;
+            this.told = told;
         }
 
         /** The FAULT, or 0. */
